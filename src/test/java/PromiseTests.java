@@ -39,58 +39,6 @@ public final class PromiseTests {
         check.end();
     }
 
-    // ---- helpers
-
-    /** All that the face answers of a cellar. What is shipped each day shows in what would be. */
-    private static List<Object> view(TinCellar x) {
-        List<Object> seen = new ArrayList<>(List.of(x.day(), x.batches(), x.tins(), x.inCellar(), x.shipped(),
-                x.lost(), x.swelled(), x.bestOrder(), x.shippingWanted(), x.meanVacuum(), x.digest()));
-        for (int shelf = 0; shelf < 4; shelf++) {
-            seen.addAll(List.of(x.standOn(shelf), x.warmOf(shelf)));
-        }
-        for (int order = 0; order < 3; order++) {
-            seen.add(x.first(order));
-            for (int many = 0; many < 10; many++) {
-                seen.add(x.lostWith(many, order));
-            }
-        }
-        for (int batch = 0; batch < x.batches(); batch++) {
-            seen.addAll(List.of(x.swelledOf(batch), x.leftOf(batch), x.isRecalled(batch), x.daysUntilRecalled(batch)));
-        }
-        for (int tin = 0; tin < x.tins(); tin++) {
-            seen.addAll(List.of(x.batchOf(tin), x.shelfOf(tin), x.vacuumOf(tin), x.isShipped(tin), x.isLost(tin)));
-            seen.addAll(List.of(x.placeBy(tin, 0), x.placeBy(tin, 1), x.placeBy(tin, 2), x.daysOf(tin)));
-            seen.add(x.bestShelf(tin));
-        }
-        return seen;
-    }
-
-    private static TinCellar withBatch(int vacuum, int leaks) {
-        TinCellar x = new TinCellar();
-        x.addBatch(vacuum, leaks);
-        return x;
-    }
-
-    private static TinCellar withTins(int vacuum, int leaks, int many) {
-        TinCellar x = withBatch(vacuum, leaks);
-        x.seal(0, 0, many);
-        return x;
-    }
-
-    /** Tins 0 and 1 of the batch 0 (8, 1), 2 and 3 of 1 (5, 0), 4 of 2 (20, 2), on the shelves 0, 1 and 3. */
-    private static TinCellar mixed() {
-        TinCellar x = new TinCellar();
-        x.addBatch(8, 1);
-        x.addBatch(5, 0);
-        x.addBatch(20, 2);
-        x.setWarm(1, 2);
-        x.setWarm(3, 3);
-        x.seal(0, 0, 2);
-        x.seal(1, 1, 2);
-        x.seal(2, 3, 1);
-        return x;
-    }
-
     // ---- batches, tins, shelves
 
     private static void promise1() {
@@ -108,7 +56,7 @@ public final class PromiseTests {
             check.same("standOn(" + shelf + ")", x.standOn(shelf), 0);
         }
         check.same("setShipping() before", x.setShipping(0, 0), 0);
-        TinCellar other = mixed();
+        TinCellar other = Cellars.mixed();
         other.pass(2);
         check.same("another object's day", x.day(), 0);
         check.same("another object's tins", x.tins(), 0);
@@ -119,22 +67,22 @@ public final class PromiseTests {
         TinCellar x = new TinCellar();
         check.same("addBatch(1, 0)", x.addBatch(1, 0), 0);
         check.same("addBatch(99, 5)", x.addBatch(99, 5), 1);
-        List<Object> before = view(x);
+        List<Object> before = Cellars.view(x);
         for (int vacuum : new int[] {Integer.MIN_VALUE, -1, 0, 100, Integer.MAX_VALUE}) {
             check.illegalArgument("addBatch(" + vacuum + ", 0)", () -> x.addBatch(vacuum, 0));
         }
         for (int leaks : new int[] {Integer.MIN_VALUE, -1, 6, Integer.MAX_VALUE}) {
             check.illegalArgument("addBatch(1, " + leaks + ")", () -> x.addBatch(1, leaks));
         }
-        check.same("what a wrong call leaves", view(x), before);
+        check.same("what a wrong call leaves", Cellars.view(x), before);
         for (int batch = 2; batch < 6; batch++) {
             check.same("addBatch(50, 3)", x.addBatch(50, 3), batch);
         }
-        before = view(x);
+        before = Cellars.view(x);
         check.illegalState("a seventh batch", () -> x.addBatch(50, 3));
         check.illegalArgument("a seventh batch of no vacuum", () -> x.addBatch(0, 3));
         check.illegalArgument("a seventh batch that leaks 6", () -> x.addBatch(50, 6));
-        check.same("what a seventh batch leaves", view(x), before);
+        check.same("what a seventh batch leaves", Cellars.view(x), before);
         x.seal(0, 0, 1);
         x.seal(1, 0, 1);
         check.same("vacuum of the batch 0", x.vacuumOf(0), 1);
@@ -146,7 +94,7 @@ public final class PromiseTests {
 
     private static void promise3() {
         check.part("promise 3");
-        TinCellar x = withBatch(30, 1);
+        TinCellar x = Cellars.withBatch(30, 1);
         x.addBatch(40, 0);
         check.same("seal(0, 2, 1)", x.seal(0, 2, 1), 0);
         check.same("seal(1, 3, 20)", x.seal(1, 3, 20), 1);
@@ -158,7 +106,7 @@ public final class PromiseTests {
         check.same("batchOf(21)", x.batchOf(21), 0);
         check.same("vacuumOf(20)", x.vacuumOf(20), 40);
         check.same("vacuumOf(21)", x.vacuumOf(21), 30);
-        List<Object> before = view(x);
+        List<Object> before = Cellars.view(x);
         for (int batch : new int[] {Integer.MIN_VALUE, -1, 2, 6, Integer.MAX_VALUE}) {
             check.outOfBounds("seal(" + batch + ", 0, 1)", () -> x.seal(batch, 0, 1));
             check.outOfBounds("seal(" + batch + ", 0, 0)", () -> x.seal(batch, 0, 0));
@@ -170,16 +118,16 @@ public final class PromiseTests {
         for (int many : new int[] {Integer.MIN_VALUE, -1, 0, 21, Integer.MAX_VALUE}) {
             check.illegalArgument("seal(0, 0, " + many + ")", () -> x.seal(0, 0, many));
         }
-        check.same("what a wrong call leaves", view(x), before);
+        check.same("what a wrong call leaves", Cellars.view(x), before);
         sealToTheLimit(x);
         sealOfRecalled();
     }
 
     private static void sealToTheLimit(TinCellar x) {
         x.seal(0, 0, 17);
-        List<Object> before = view(x);
+        List<Object> before = Cellars.view(x);
         check.illegalState("seal(0, 0, 20) with 41", () -> x.seal(0, 0, 20));
-        check.same("what it leaves", view(x), before);
+        check.same("what it leaves", Cellars.view(x), before);
         check.same("seal(0, 0, 19) with 41", x.seal(0, 0, 19), 41);
         check.illegalState("seal(0, 0, 1) with 60", () -> x.seal(0, 0, 1));
         check.illegalArgument("seal(0, 0, 21) with 60", () -> x.seal(0, 0, 21));
@@ -190,14 +138,14 @@ public final class PromiseTests {
     }
 
     private static void sealOfRecalled() {
-        TinCellar x = withTins(1, 1, 3);
+        TinCellar x = Cellars.withTins(1, 1, 3);
         x.addBatch(9, 0);
         x.pass(1);
-        List<Object> before = view(x);
+        List<Object> before = Cellars.view(x);
         check.illegalState("seal of a batch recalled by swelling", () -> x.seal(0, 0, 1));
         check.illegalArgument("seal of none of it", () -> x.seal(0, 0, 0));
         check.outOfBounds("seal of it on no shelf", () -> x.seal(0, -1, 1));
-        check.same("what that leaves", view(x), before);
+        check.same("what that leaves", Cellars.view(x), before);
         check.same("seal of another batch", x.seal(1, 0, 1), 3);
         x.recall(1);
         check.illegalState("seal of a batch recalled by hand", () -> x.seal(1, 0, 1));
@@ -205,31 +153,31 @@ public final class PromiseTests {
 
     private static void promise4() {
         check.part("promise 4");
-        TinCellar x = mixed();
+        TinCellar x = Cellars.mixed();
         check.same("move(0, 3)", x.move(0, 3), 0);
         check.same("shelfOf(0)", x.shelfOf(0), 3);
         check.same("shelfOf(1)", x.shelfOf(1), 0);
         check.same("move(0, 3) again", x.move(0, 3), 3);
         check.same("move(0, 0)", x.move(0, 0), 3);
         check.same("move(4, 1)", x.move(4, 1), 3);
-        List<Object> before = view(x);
+        List<Object> before = Cellars.view(x);
         for (int tin : new int[] {Integer.MIN_VALUE, -1, 5, 60, Integer.MAX_VALUE}) {
             check.outOfBounds("move(" + tin + ", 0)", () -> x.move(tin, 0));
         }
         for (int shelf : new int[] {Integer.MIN_VALUE, -1, 4, Integer.MAX_VALUE}) {
             check.outOfBounds("move(0, " + shelf + ")", () -> x.move(0, shelf));
         }
-        check.same("what a wrong call leaves", view(x), before);
+        check.same("what a wrong call leaves", Cellars.view(x), before);
         x.setShipping(1, 0);
         x.pass(1);
         x.recall(1);
-        List<Object> after = view(x);
+        List<Object> after = Cellars.view(x);
         check.illegalState("move of one shipped", () -> x.move(0, 1));
         check.illegalState("move of one lost", () -> x.move(2, 1));
         check.outOfBounds("move of one shipped to no shelf", () -> x.move(0, 4));
         check.outOfBounds("move of one lost to no shelf", () -> x.move(2, -1));
-        check.same("what that leaves", view(x), after);
-        TinCellar y = withTins(9, 0, 1);
+        check.same("what that leaves", Cellars.view(x), after);
+        TinCellar y = Cellars.withTins(9, 0, 1);
         y.setWarm(2, 3);
         y.move(0, 2);
         y.pass(1);
@@ -238,7 +186,7 @@ public final class PromiseTests {
 
     private static void promise5() {
         check.part("promise 5");
-        TinCellar x = mixed();
+        TinCellar x = Cellars.mixed();
         check.same("setWarm(0, 3)", x.setWarm(0, 3), 0);
         check.same("setWarm(0, 1)", x.setWarm(0, 1), 3);
         check.same("setWarm(3, 0)", x.setWarm(3, 0), 3);
@@ -246,7 +194,7 @@ public final class PromiseTests {
         check.same("warmOf(0)", x.warmOf(0), 1);
         check.same("warmOf(2)", x.warmOf(2), 0);
         check.same("warmOf(3)", x.warmOf(3), 0);
-        List<Object> before = view(x);
+        List<Object> before = Cellars.view(x);
         for (int shelf : new int[] {Integer.MIN_VALUE, -1, 4, Integer.MAX_VALUE}) {
             check.outOfBounds("setWarm(" + shelf + ", 1)", () -> x.setWarm(shelf, 1));
             check.outOfBounds("setWarm(" + shelf + ", 4)", () -> x.setWarm(shelf, 4));
@@ -254,7 +202,7 @@ public final class PromiseTests {
         for (int warm : new int[] {Integer.MIN_VALUE, -1, 4, Integer.MAX_VALUE}) {
             check.illegalArgument("setWarm(0, " + warm + ")", () -> x.setWarm(0, warm));
         }
-        check.same("what a wrong call leaves", view(x), before);
+        check.same("what a wrong call leaves", Cellars.view(x), before);
         x.pass(1);
         check.same("a day's loss on a shelf made warm", x.vacuumOf(0), 6);
         check.same("a day's loss on a shelf made cold", x.vacuumOf(4), 18);
@@ -262,18 +210,18 @@ public final class PromiseTests {
 
     private static void promise6() {
         check.part("promise 6");
-        TinCellar x = withTins(50, 0, 20);
+        TinCellar x = Cellars.withTins(50, 0, 20);
         check.same("setShipping(9, 2)", x.setShipping(9, 2), 0);
         check.same("setShipping(2, 1)", x.setShipping(2, 1), 9);
         check.same("setShipping(2, 0)", x.setShipping(2, 0), 2);
-        List<Object> before = view(x);
+        List<Object> before = Cellars.view(x);
         for (int many : new int[] {Integer.MIN_VALUE, -1, 10, Integer.MAX_VALUE}) {
             check.illegalArgument("setShipping(" + many + ", 1)", () -> x.setShipping(many, 1));
         }
         for (int order : new int[] {Integer.MIN_VALUE, -1, 3, Integer.MAX_VALUE}) {
             check.illegalArgument("setShipping(5, " + order + ")", () -> x.setShipping(5, order));
         }
-        check.same("what a wrong call leaves", view(x), before);
+        check.same("what a wrong call leaves", Cellars.view(x), before);
         check.same("pass(1)", x.pass(1), 2);
         check.same("setShipping(0, 0)", x.setShipping(0, 0), 2);
         check.same("pass(3) with none a day", x.pass(3), 0);
@@ -283,7 +231,7 @@ public final class PromiseTests {
     }
 
     private static void shippedBy(int order, List<Integer> due) {
-        TinCellar x = mixed();
+        TinCellar x = Cellars.mixed();
         x.setShipping(2, order);
         check.same("pass(1) by the order " + order, x.pass(1), 2);
         for (int tin = 0; tin < 5; tin++) {
@@ -293,7 +241,7 @@ public final class PromiseTests {
 
     private static void promise7() {
         check.part("promise 7");
-        TinCellar x = mixed();
+        TinCellar x = Cellars.mixed();
         x.addBatch(1, 0);
         check.same("recall(1)", x.recall(1), 2);
         check.same("isLost(2)", x.isLost(2), true);
@@ -302,30 +250,30 @@ public final class PromiseTests {
         check.same("lost()", x.lost(), 2);
         check.same("swelled()", x.swelled(), 0);
         check.same("recall(3) of a batch without tins", x.recall(3), 0);
-        List<Object> before = view(x);
+        List<Object> before = Cellars.view(x);
         check.illegalState("recall(1) again", () -> x.recall(1));
         check.illegalState("recall(3) again", () -> x.recall(3));
         for (int batch : new int[] {Integer.MIN_VALUE, -1, 4, 6, Integer.MAX_VALUE}) {
             check.outOfBounds("recall(" + batch + ")", () -> x.recall(batch));
         }
-        check.same("what a wrong call leaves", view(x), before);
+        check.same("what a wrong call leaves", Cellars.view(x), before);
         x.setShipping(1, 0);
         x.pass(1);
         check.same("recall(0) with one shipped", x.recall(0), 1);
         check.same("isShipped(0) stays", x.isShipped(0), true);
-        TinCellar y = withTins(1, 1, 3);
+        TinCellar y = Cellars.withTins(1, 1, 3);
         y.pass(1);
         check.illegalState("recall of a batch recalled by swelling", () -> y.recall(0));
     }
 
     private static void promise8() {
         check.part("promise 8");
-        TinCellar x = withTins(99, 0, 20);
-        List<Object> before = view(x);
+        TinCellar x = Cellars.withTins(99, 0, 20);
+        List<Object> before = Cellars.view(x);
         for (int days : new int[] {Integer.MIN_VALUE, -1, 0, 61, Integer.MAX_VALUE}) {
             check.illegalArgument("pass(" + days + ")", () -> x.pass(days));
         }
-        check.same("what a wrong call leaves", view(x), before);
+        check.same("what a wrong call leaves", Cellars.view(x), before);
         check.same("pass(60) with none shipped", x.pass(60), 0);
         check.same("day()", x.day(), 60);
         x.setShipping(9, 0);
@@ -339,19 +287,19 @@ public final class PromiseTests {
     }
 
     private static void swellAheadOfShipping() {
-        TinCellar x = withTins(1, 1, 2);
+        TinCellar x = Cellars.withTins(1, 1, 2);
         x.setShipping(9, 0);
         check.same("shipped of tins that swell on that day", x.pass(1), 0);
         check.same("lost()", x.lost(), 2);
         check.same("two swelled lids recall nothing", x.isRecalled(0), false);
-        TinCellar y = withTins(2, 1, 2);
+        TinCellar y = Cellars.withTins(2, 1, 2);
         y.setShipping(9, 0);
         check.same("shipped a day ahead of swelling", y.pass(2), 2);
         check.same("lost()", y.lost(), 0);
     }
 
     private static void recallAheadOfShipping() {
-        TinCellar x = withBatch(3, 0);
+        TinCellar x = Cellars.withBatch(3, 0);
         x.addBatch(9, 0);
         x.setWarm(1, 3);
         x.seal(0, 0, 2);
@@ -363,7 +311,7 @@ public final class PromiseTests {
         check.same("swelled()", x.swelled(), 3);
         check.same("isLost(0)", x.isLost(0), true);
         check.same("isShipped(5)", x.isShipped(5), true);
-        TinCellar y = withBatch(3, 0);
+        TinCellar y = Cellars.withBatch(3, 0);
         y.setWarm(1, 3);
         y.seal(0, 1, 2);
         y.seal(0, 0, 2);
@@ -376,7 +324,7 @@ public final class PromiseTests {
     }
 
     private static void vacuumStaysAboveNothing() {
-        TinCellar x = withTins(7, 5, 1);
+        TinCellar x = Cellars.withTins(7, 5, 1);
         x.setWarm(0, 3);
         x.pass(1);
         check.same("vacuum of 7 less 8", x.vacuumOf(0), 0);
@@ -389,7 +337,7 @@ public final class PromiseTests {
     // ---- the cellar
 
     private static void promises9To15() {
-        TinCellar x = mixed();
+        TinCellar x = Cellars.mixed();
         cellar(x, new int[] {0, 3, 5, 5, 0, 0, 0});
         x.pass(2);
         cellar(x, new int[] {2, 3, 5, 5, 0, 0, 0});
@@ -426,7 +374,7 @@ public final class PromiseTests {
 
     private static void promise16() {
         check.part("promise 16");
-        TinCellar x = mixed();
+        TinCellar x = Cellars.mixed();
         check.same("standOn(0)", x.standOn(0), 2);
         check.same("standOn(1)", x.standOn(1), 2);
         check.same("standOn(2)", x.standOn(2), 0);
@@ -446,7 +394,7 @@ public final class PromiseTests {
 
     private static void promise17() {
         check.part("promise 17");
-        TinCellar x = mixed();
+        TinCellar x = Cellars.mixed();
         check.same("warmOf(0)", x.warmOf(0), 0);
         check.same("warmOf(1)", x.warmOf(1), 2);
         check.same("warmOf(2)", x.warmOf(2), 0);
@@ -473,7 +421,7 @@ public final class PromiseTests {
 
     private static void promise18() {
         check.part("promise 18");
-        TinCellar x = mixed();
+        TinCellar x = Cellars.mixed();
         check.same("batchOf(0)", x.batchOf(0), 0);
         check.same("batchOf(3)", x.batchOf(3), 1);
         check.same("batchOf(4)", x.batchOf(4), 2);
@@ -484,7 +432,7 @@ public final class PromiseTests {
 
     private static void promise19() {
         check.part("promise 19");
-        TinCellar x = mixed();
+        TinCellar x = Cellars.mixed();
         check.same("shelfOf(1)", x.shelfOf(1), 0);
         check.same("shelfOf(2)", x.shelfOf(2), 1);
         check.same("shelfOf(4)", x.shelfOf(4), 3);
@@ -498,7 +446,7 @@ public final class PromiseTests {
 
     private static void promise20() {
         check.part("promise 20");
-        TinCellar x = mixed();
+        TinCellar x = Cellars.mixed();
         check.same("vacuumOf(4)", x.vacuumOf(4), 20);
         x.setShipping(1, 0);
         x.pass(1);
@@ -511,7 +459,7 @@ public final class PromiseTests {
         check.same("vacuumOf one recalled, as it was last", x.vacuumOf(4), 15);
         check.same("vacuumOf one swelled", x.vacuumOf(2), 0);
         noSuchTin(x, "vacuumOf", x::vacuumOf);
-        TinCellar y = withBatch(9, 1);
+        TinCellar y = Cellars.withBatch(9, 1);
         y.setWarm(1, 3);
         y.seal(0, 1, 3);
         y.seal(0, 0, 1);
@@ -521,7 +469,7 @@ public final class PromiseTests {
 
     private static void promises21And22() {
         check.part("promises 21 and 22");
-        TinCellar x = mixed();
+        TinCellar x = Cellars.mixed();
         x.setShipping(1, 0);
         x.pass(1);
         x.setShipping(0, 0);
@@ -539,7 +487,7 @@ public final class PromiseTests {
 
     private static void promise23() {
         check.part("promise 23");
-        TinCellar x = mixed();
+        TinCellar x = Cellars.mixed();
         check.same("swelledOf(1)", x.swelledOf(1), 0);
         x.pass(3);
         check.same("swelledOf(0) on the day 3", x.swelledOf(0), 0);
@@ -553,7 +501,7 @@ public final class PromiseTests {
 
     private static void promise24() {
         check.part("promise 24");
-        TinCellar x = mixed();
+        TinCellar x = Cellars.mixed();
         x.addBatch(9, 5);
         check.same("leftOf(0)", x.leftOf(0), 2);
         check.same("leftOf(2)", x.leftOf(2), 1);
@@ -568,7 +516,7 @@ public final class PromiseTests {
 
     private static void promise25() {
         check.part("promise 25");
-        TinCellar x = withTins(2, 1, 3);
+        TinCellar x = Cellars.withTins(2, 1, 3);
         x.addBatch(2, 1);
         x.seal(1, 0, 2);
         check.same("isRecalled(0)", x.isRecalled(0), false);
@@ -586,7 +534,7 @@ public final class PromiseTests {
 
     private static void promise26() {
         check.part("promise 26");
-        TinCellar x = mixed();
+        TinCellar x = Cellars.mixed();
         check.same("first(0)", x.first(0), 0);
         check.same("first(1)", x.first(1), 2);
         check.same("first(2)", x.first(2), 4);
@@ -610,7 +558,7 @@ public final class PromiseTests {
 
     private static void promise27() {
         check.part("promise 27");
-        TinCellar x = mixed();
+        TinCellar x = Cellars.mixed();
         places(x, 0, new int[] {0, 1, 2, 3, 4});
         places(x, 1, new int[] {2, 3, 0, 1, 4});
         places(x, 2, new int[] {3, 4, 1, 2, 0});
@@ -641,7 +589,7 @@ public final class PromiseTests {
 
     private static void promise28() {
         check.part("promise 28");
-        TinCellar x = withBatch(10, 0);
+        TinCellar x = Cellars.withBatch(10, 0);
         x.addBatch(10, 3);
         x.addBatch(1, 5);
         x.addBatch(99, 1);
@@ -653,12 +601,12 @@ public final class PromiseTests {
         x.seal(2, 0, 3);
         x.seal(3, 0, 1);
         x.setShipping(9, 0);
-        List<Object> before = view(x);
+        List<Object> before = Cellars.view(x);
         int[] due = {-1, 5, 4, 2, 1, 1, 1, 99};
         for (int tin = 0; tin < due.length; tin++) {
             check.same("daysOf(" + tin + ")", x.daysOf(tin), due[tin]);
         }
-        check.same("what it leaves", view(x), before);
+        check.same("what it leaves", Cellars.view(x), before);
         x.setShipping(1, 0);
         x.pass(1);
         check.same("daysOf one shipped", x.daysOf(0), -1);
@@ -667,7 +615,7 @@ public final class PromiseTests {
         x.setWarm(1, 0);
         check.same("daysOf(1) on a cold shelf", x.daysOf(1), -1);
         noSuchTin(x, "daysOf", x::daysOf);
-        TinCellar y = withBatch(9, 1);
+        TinCellar y = Cellars.withBatch(9, 1);
         y.setWarm(1, 3);
         y.seal(0, 1, 3);
         y.seal(0, 0, 1);
@@ -676,21 +624,21 @@ public final class PromiseTests {
 
     private static void promise29() {
         check.part("promise 29");
-        check.same("3 tins of 60, leaking 1", withTins(60, 1, 3).daysUntilRecalled(0), 60);
-        check.same("3 tins of 61, leaking 1", withTins(61, 1, 3).daysUntilRecalled(0), -1);
-        check.same("2 tins", withTins(5, 1, 2).daysUntilRecalled(0), -1);
-        check.same("no tins", withBatch(5, 1).daysUntilRecalled(0), -1);
-        check.same("3 tins of 1, leaking 5", withTins(1, 5, 3).daysUntilRecalled(0), 1);
-        TinCellar x = withTins(5, 1, 4);
+        check.same("3 tins of 60, leaking 1", Cellars.withTins(60, 1, 3).daysUntilRecalled(0), 60);
+        check.same("3 tins of 61, leaking 1", Cellars.withTins(61, 1, 3).daysUntilRecalled(0), -1);
+        check.same("2 tins", Cellars.withTins(5, 1, 2).daysUntilRecalled(0), -1);
+        check.same("no tins", Cellars.withBatch(5, 1).daysUntilRecalled(0), -1);
+        check.same("3 tins of 1, leaking 5", Cellars.withTins(1, 5, 3).daysUntilRecalled(0), 1);
+        TinCellar x = Cellars.withTins(5, 1, 4);
         x.setWarm(1, 3);
         check.same("4 tins of 5, leaking 1", x.daysUntilRecalled(0), 5);
         x.move(0, 1);
         x.move(3, 1);
         check.same("two of them on a warm shelf", x.daysUntilRecalled(0), 5);
         x.move(1, 1);
-        List<Object> before = view(x);
+        List<Object> before = Cellars.view(x);
         check.same("three of them on a warm shelf", x.daysUntilRecalled(0), 2);
-        check.same("what it leaves", view(x), before);
+        check.same("what it leaves", Cellars.view(x), before);
         x.setShipping(1, 0);
         check.same("with one shipped a day", x.daysUntilRecalled(0), -1);
         x.setShipping(1, 1);
@@ -700,7 +648,7 @@ public final class PromiseTests {
         check.same("a day later", x.daysUntilRecalled(0), 1);
         x.pass(1);
         check.same("once recalled", x.daysUntilRecalled(0), 0);
-        TinCellar y = withTins(9, 0, 1);
+        TinCellar y = Cellars.withTins(9, 0, 1);
         y.recall(0);
         check.same("once recalled by hand", y.daysUntilRecalled(0), 0);
         noSuchBatch(y, "daysUntilRecalled", y::daysUntilRecalled);
@@ -708,7 +656,7 @@ public final class PromiseTests {
     }
 
     private static void recalledOfTwo() {
-        TinCellar x = withTins(99, 0, 5);
+        TinCellar x = Cellars.withTins(99, 0, 5);
         x.addBatch(5, 1);
         x.seal(1, 0, 4);
         check.same("the one that does not leak", x.daysUntilRecalled(0), -1);
@@ -721,20 +669,20 @@ public final class PromiseTests {
 
     private static void promise30() {
         check.part("promise 30");
-        check.same("2 tins of 30, leaking 1", withTins(30, 1, 2).lostWith(0, 0), 2);
-        check.same("2 tins of 31, leaking 1", withTins(31, 1, 2).lostWith(0, 0), 0);
-        TinCellar x = withTins(5, 1, 9);
+        check.same("2 tins of 30, leaking 1", Cellars.withTins(30, 1, 2).lostWith(0, 0), 2);
+        check.same("2 tins of 31, leaking 1", Cellars.withTins(31, 1, 2).lostWith(0, 0), 0);
+        TinCellar x = Cellars.withTins(5, 1, 9);
         x.setShipping(9, 0);
-        List<Object> before = view(x);
+        List<Object> before = Cellars.view(x);
         int[] due = {9, 5, 1, 0, 0, 0, 0, 0, 0, 0};
         for (int many = 0; many < 10; many++) {
             check.same("lostWith(" + many + ", 0)", x.lostWith(many, 0), due[many]);
         }
-        check.same("what it leaves", view(x), before);
-        TinCellar y = mixed();
+        check.same("what it leaves", Cellars.view(x), before);
+        TinCellar y = Cellars.mixed();
         y.pass(3);
         check.same("those lost before do not count", y.lostWith(0, 0), 3);
-        TinCellar z = withBatch(60, 0);
+        TinCellar z = Cellars.withBatch(60, 0);
         z.setWarm(1, 2);
         z.seal(0, 0, 4);
         z.seal(0, 1, 3);
@@ -749,22 +697,12 @@ public final class PromiseTests {
         }
     }
 
-    /** Five tins that never swell, and one behind them, on a warm shelf, that swells on the fourth day. */
-    private static TinCellar oneWarmBehind(int vacuumOfFive) {
-        TinCellar x = withBatch(vacuumOfFive, 0);
-        x.addBatch(10, 0);
-        x.setWarm(1, 3);
-        x.seal(0, 0, 5);
-        x.seal(1, 1, 1);
-        return x;
-    }
-
     private static void lostByOrder() {
-        TinCellar weakFive = oneWarmBehind(1);
+        TinCellar weakFive = Cellars.oneWarmBehind(1);
         check.same("weak five by the oldest", weakFive.lostWith(1, 0), 1);
         check.same("weak five by the weakest", weakFive.lostWith(1, 1), 1);
         check.same("weak five by the warmest", weakFive.lostWith(1, 2), 0);
-        TinCellar strongFive = oneWarmBehind(99);
+        TinCellar strongFive = Cellars.oneWarmBehind(99);
         check.same("strong five by the oldest", strongFive.lostWith(1, 0), 1);
         check.same("strong five by the weakest", strongFive.lostWith(1, 1), 0);
         check.same("strong five by the warmest", strongFive.lostWith(1, 2), 0);
@@ -773,15 +711,15 @@ public final class PromiseTests {
     private static void promise31() {
         check.part("promise 31");
         check.same("without tins", new TinCellar().bestOrder(), 0);
-        TinCellar x = oneWarmBehind(1);
+        TinCellar x = Cellars.oneWarmBehind(1);
         check.same("with none shipped", x.bestOrder(), 0);
         x.setShipping(1, 0);
-        List<Object> before = view(x);
+        List<Object> before = Cellars.view(x);
         check.same("with one shipped, weak five", x.bestOrder(), 2);
-        check.same("what it leaves", view(x), before);
+        check.same("what it leaves", Cellars.view(x), before);
         x.setShipping(2, 2);
         check.same("with two shipped, weak five", x.bestOrder(), 0);
-        TinCellar y = oneWarmBehind(99);
+        TinCellar y = Cellars.oneWarmBehind(99);
         y.setShipping(1, 2);
         check.same("with one shipped, strong five", y.bestOrder(), 1);
     }
@@ -789,23 +727,23 @@ public final class PromiseTests {
     private static void promise32() {
         check.part("promise 32");
         check.same("without tins", new TinCellar().shippingWanted(), 0);
-        check.same("9 tins, one day", withTins(2, 1, 9).shippingWanted(), 9);
-        check.same("10 tins, one day", withTins(2, 1, 10).shippingWanted(), -1);
-        check.same("tins that swell at once", withTins(1, 1, 1).shippingWanted(), -1);
-        check.same("8 tins, 4 days", withTins(5, 1, 8).shippingWanted(), 2);
-        check.same("9 tins, 4 days", withTins(5, 1, 9).shippingWanted(), 3);
-        check.same("a tin that swells on the day 30", withTins(30, 1, 1).shippingWanted(), 1);
-        check.same("a tin that swells on the day 31", withTins(31, 1, 1).shippingWanted(), 0);
-        TinCellar x = oneWarmBehind(1);
+        check.same("9 tins, one day", Cellars.withTins(2, 1, 9).shippingWanted(), 9);
+        check.same("10 tins, one day", Cellars.withTins(2, 1, 10).shippingWanted(), -1);
+        check.same("tins that swell at once", Cellars.withTins(1, 1, 1).shippingWanted(), -1);
+        check.same("8 tins, 4 days", Cellars.withTins(5, 1, 8).shippingWanted(), 2);
+        check.same("9 tins, 4 days", Cellars.withTins(5, 1, 9).shippingWanted(), 3);
+        check.same("a tin that swells on the day 30", Cellars.withTins(30, 1, 1).shippingWanted(), 1);
+        check.same("a tin that swells on the day 31", Cellars.withTins(31, 1, 1).shippingWanted(), 0);
+        TinCellar x = Cellars.oneWarmBehind(1);
         check.same("weak five by the oldest", x.shippingWanted(), 2);
-        check.same("strong five by the oldest, as at first", oneWarmBehind(99).shippingWanted(), 2);
+        check.same("strong five by the oldest, as at first", Cellars.oneWarmBehind(99).shippingWanted(), 2);
         x.setShipping(9, 1);
         check.same("weak five by the weakest", x.shippingWanted(), 2);
         x.setShipping(0, 2);
-        List<Object> before = view(x);
+        List<Object> before = Cellars.view(x);
         check.same("weak five by the warmest", x.shippingWanted(), 1);
-        check.same("what it leaves", view(x), before);
-        TinCellar y = mixed();
+        check.same("what it leaves", Cellars.view(x), before);
+        TinCellar y = Cellars.mixed();
         y.pass(3);
         y.recall(0);
         y.recall(2);
@@ -814,7 +752,7 @@ public final class PromiseTests {
 
     private static void promise33() {
         check.part("promise 33");
-        TinCellar x = withBatch(10, 0);
+        TinCellar x = Cellars.withBatch(10, 0);
         x.addBatch(10, 5);
         x.addBatch(99, 0);
         x.seal(0, 3, 1);
@@ -822,11 +760,11 @@ public final class PromiseTests {
         x.seal(2, 2, 1);
         check.same("all shelves cold", x.bestShelf(0), 0);
         x.setWarm(0, 3);
-        List<Object> before = view(x);
+        List<Object> before = Cellars.view(x);
         check.same("never swelling on the shelf 1", x.bestShelf(0), 1);
         check.same("swelling on the day 2 on each", x.bestShelf(1), 0);
         check.same("never swelling on the shelf 1, of 99", x.bestShelf(2), 1);
-        check.same("what it leaves", view(x), before);
+        check.same("what it leaves", Cellars.view(x), before);
         x.setWarm(1, 2);
         x.setWarm(2, 1);
         check.same("never swelling on its own shelf", x.bestShelf(0), 3);
@@ -845,7 +783,7 @@ public final class PromiseTests {
     private static void promise34() {
         check.part("promise 34");
         check.same("without any", new TinCellar().meanVacuum(), 0.0);
-        TinCellar x = mixed();
+        TinCellar x = Cellars.mixed();
         check.same("meanVacuum()", x.meanVacuum(), 46.0 / 5);
         x.recall(1);
         check.same("with two lost", x.meanVacuum(), 12.0);
@@ -855,7 +793,7 @@ public final class PromiseTests {
         x.recall(0);
         x.recall(2);
         check.same("with none left", x.meanVacuum(), 0.0);
-        TinCellar y = withTins(1, 0, 2);
+        TinCellar y = Cellars.withTins(1, 0, 2);
         y.addBatch(2, 0);
         y.seal(1, 0, 1);
         check.same("a third", y.meanVacuum(), 4.0 / 3);
@@ -869,7 +807,7 @@ public final class PromiseTests {
             empty = empty * 31 + n;
         }
         check.same("digest() of a new one", new TinCellar().digest(), empty);
-        TinCellar one = withTins(4, 2, 1);
+        TinCellar one = Cellars.withTins(4, 2, 1);
         one.setWarm(1, 1);
         one.setShipping(0, 1);
         long[] ofOne = {0, 1, 1, 1, 0, 0, 0, 0, 0, 0, 0, 1, 1, 0, 0, 1, 0, 0, 0, 0, 0, 1, 0, -1, 0, 4, 0, 0, 2, 0};
@@ -878,7 +816,7 @@ public final class PromiseTests {
             d = d * 31 + n;
         }
         check.same("digest() of one tin", one.digest(), d);
-        TinCellar x = mixed();
+        TinCellar x = Cellars.mixed();
         x.setShipping(1, 1);
         for (int days = 0; days < 8; days++) {
             check.same("digest() on the day " + days, x.digest(), digestByFace(x));
