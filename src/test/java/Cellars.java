@@ -1,5 +1,6 @@
 import java.util.ArrayList;
 import java.util.List;
+import java.util.function.Supplier;
 import java.util.stream.IntStream;
 
 /** Cellars to start from, and all that a cellar answers. */
@@ -124,18 +125,25 @@ final class Cellars {
         return seen;
     }
 
-    /** All that a cellar answers now and as it goes on, so that what no call answers at once shows too. It changes x. */
-    static List<Object> future(TinCellar x) {
-        List<Object> seen = view(x);
+    /** What a cellar holds, told without a call that tries days out. */
+    private static List<Object> holding(TinCellar x) {
+        List<Object> seen = new ArrayList<>(List.of(x.day(), x.inCellar(), x.shipped(), x.lost(), x.swelled()));
+        for (int tin = 0; tin < x.tins(); tin++) {
+            seen.addAll(List.of(x.shelfOf(tin), x.vacuumOf(tin), x.isShipped(tin), x.placeBy(tin, 2)));
+        }
+        return seen;
+    }
+
+    /** How a cellar goes on, so that what no call answers at once shows too. */
+    private static List<Object> course(TinCellar x) {
+        List<Object> seen = new ArrayList<>();
         for (int days = 0; days < 2; days++) {
             seen.add(x.pass(1));
-            seen.add(x.digest());
+            seen.addAll(holding(x));
         }
         seen.add(x.setShipping(1, 2));
         for (int shelf = 0; shelf < 4; shelf++) {
-            int warm = 3 - shelf;
-            int on = shelf;
-            seen.add(Check.outcome(() -> x.setWarm(on, warm)));
+            seen.add(x.setWarm(shelf, 3 - shelf));
         }
         seen.add(Check.outcome(() -> x.addBatch(9, 1)));
         for (int batch = 0; batch < 6; batch++) {
@@ -143,7 +151,30 @@ final class Cellars {
             seen.add(Check.outcome(() -> x.seal(of, 1, 1)));
         }
         seen.add(x.pass(1));
+        seen.addAll(holding(x));
         seen.addAll(view(x));
         return seen;
+    }
+
+    interface Act {
+        Object on(TinCellar x);
+    }
+
+    /**
+     * All that a cellar answers after a call, and how another one, made the same way, goes on after it: two of them,
+     * since a call that tries days out could set right, or hide, what the call did.
+     */
+    static List<Object> after(Supplier<TinCellar> from, Act act) {
+        TinCellar seen = from.get();
+        Check.outcome(() -> act.on(seen));
+        TinCellar driven = from.get();
+        Check.outcome(() -> act.on(driven));
+        List<Object> all = view(seen);
+        all.addAll(course(driven));
+        return all;
+    }
+
+    static List<Object> afterNothing(Supplier<TinCellar> from) {
+        return after(from, x -> 0);
     }
 }

@@ -6,7 +6,8 @@ import java.util.function.Supplier;
 /** The promises 28 to 35, what would be: each sentence that names a bound has a test of its own. */
 public final class ForesightTests {
     private static final List<Supplier<TinCellar>> MANY = List.of(TinCellar::new, Cellars::busy, Cellars::full,
-            Cellars::mixed, () -> Cellars.oneWarmBehind(1), () -> Cellars.oneWarmBehind(99), ForesightTests::threeKinds);
+            Cellars::mixed, () -> Cellars.oneWarmBehind(1), () -> Cellars.oneWarmBehind(99),
+            ForesightTests::threeKinds);
 
     private static final Check check = new Check();
 

@@ -25,10 +25,6 @@ public final class RefusalTests {
 
     private static final Check check = new Check();
 
-    private interface Ask {
-        Object of(TinCellar x);
-    }
-
     private interface AskNumber {
         Object of(TinCellar x, int number);
     }
@@ -56,10 +52,9 @@ public final class RefusalTests {
         check.end();
     }
 
-    private static void refused(Supplier<TinCellar> from, String what, String exception, Ask call) {
-        TinCellar x = from.get();
-        check.answers(what, () -> call.of(x), "throws." + exception);
-        check.same("what follows " + what, Cellars.future(x), Cellars.future(from.get()));
+    private static void refused(Supplier<TinCellar> from, String what, String exception, Cellars.Act call) {
+        check.answers(what, () -> call.on(from.get()), "throws." + exception);
+        check.same("what follows " + what, Cellars.after(from, call), Cellars.afterNothing(from));
     }
 
     // ---- batches, tins, shelves

@@ -4,10 +4,6 @@ import java.util.List;
 public final class TermsTests {
     private static final Check check = new Check();
 
-    private interface Ask {
-        Object of(TinCellar x);
-    }
-
     public static void main(String[] args) {
         call512();
         daysFrom0();
@@ -49,10 +45,10 @@ public final class TermsTests {
             x.pass(60);
         }
         check.same("day() as the call 512", x.day(), 30660);
-        List<Ask> asks = List.of(TinCellar::digest, TinCellar::shippingWanted, y -> y.pass(60), y -> y.recall(5),
-                y -> y.move(59, 0), y -> y.setShipping(9, 1), y -> y.daysUntilRecalled(5), y -> y.placeBy(59, 1));
-        for (Ask ask : asks) {
-            check.same("a call as the call 512", ask.of(fullAfter511()), ask.of(Cellars.full()));
+        List<Cellars.Act> acts = List.of(TinCellar::digest, TinCellar::shippingWanted, y -> y.pass(60),
+                y -> y.recall(5), y -> y.move(59, 0), y -> y.setShipping(9, 1), y -> y.daysUntilRecalled(5));
+        for (Cellars.Act act : acts) {
+            check.same("a call as the call 512", act.on(fullAfter511()), act.on(Cellars.full()));
         }
         TinCellar late = new TinCellar();
         late.addBatch(9, 0);
@@ -512,13 +508,15 @@ public final class TermsTests {
 
     private static void throwingChangesNothing() {
         check.part("'A method that throws an exception changes nothing'");
-        TinCellar x = Cellars.busy();
-        List<Ask> refused = List.of(y -> y.addBatch(0, 6), y -> y.seal(5, 4, 0), y -> y.move(20, 4), y -> y.move(0, 0),
-                y -> y.setWarm(4, 4), y -> y.setShipping(10, 0), y -> y.setShipping(9, 3), y -> y.recall(0),
-                y -> y.pass(61), y -> y.standOn(4), y -> y.placeBy(10, 3), y -> y.lostWith(9, 3), y -> y.first(3));
-        for (Ask ask : refused) {
-            check.same("a refused call throws", Check.outcome(() -> ask.of(x)) instanceof String, true);
-        }
-        check.same("what follows all of them", Cellars.future(x), Cellars.future(Cellars.busy()));
+        List<Cellars.Act> refused = List.of(y -> y.addBatch(0, 6), y -> y.seal(5, 4, 0), y -> y.move(20, 4),
+                y -> y.move(0, 0), y -> y.setWarm(4, 4), y -> y.setShipping(10, 0), y -> y.setShipping(9, 3),
+                y -> y.recall(0), y -> y.pass(61), y -> y.standOn(4), y -> y.placeBy(10, 3), y -> y.lostWith(9, 3));
+        Cellars.Act all = x -> {
+            for (Cellars.Act act : refused) {
+                check.same("a refused call throws", Check.outcome(() -> act.on(x)) instanceof String, true);
+            }
+            return 0;
+        };
+        check.same("what follows all", Cellars.after(Cellars::busy, all), Cellars.afterNothing(Cellars::busy));
     }
 }

@@ -8,10 +8,6 @@ public final class UnchangedTests {
 
     private static final Check check = new Check();
 
-    private interface Ask {
-        Object of(TinCellar x);
-    }
-
     private interface AskNumber {
         Object of(TinCellar x, int number);
     }
@@ -24,14 +20,14 @@ public final class UnchangedTests {
         check.end();
     }
 
-    private static void unchanged(Supplier<TinCellar> from, String what, Ask ask) {
+    private static void unchanged(Supplier<TinCellar> from, String what, Cellars.Act ask) {
         TinCellar x = from.get();
-        Object first = ask.of(x);
-        check.same(what + " again", ask.of(x), first);
-        check.same("what follows " + what, Cellars.future(x), Cellars.future(from.get()));
+        Object first = ask.on(x);
+        check.same(what + " again", ask.on(x), first);
+        check.same("what follows " + what, Cellars.after(from, ask), Cellars.afterNothing(from));
     }
 
-    private static void ofNone(int promise, String name, Ask ask) {
+    private static void ofNone(int promise, String name, Cellars.Act ask) {
         check.part("promise " + promise);
         for (Supplier<TinCellar> from : ALL) {
             unchanged(from, name + "()", ask);
